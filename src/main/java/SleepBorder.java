@@ -510,7 +510,7 @@ public final class SleepBorder {
             return hidden > 0 && hidden + alertness[guard] >= ENOUGH_TO_FIND;
         }
 
-        /** Lets minutes go by in a trial, but for those in which no traveller can change any more. */
+        /** Lets minutes go by in a trial; once all sleep or are sent back, no answer needs the rest. */
         void goOn(int minutes) {
             for (int gone = 0; gone < minutes && !isSettled(); gone++) {
                 goOneMinute();
@@ -592,7 +592,6 @@ public final class SleepBorder {
                 transitLeft[traveller] = TRANSIT_MINUTES;
             }
             searched[guard] = NOBODY;
-            searchLeft[guard] = 0;
             alertness[guard] = Math.max(alertness[guard] - 1, 0);
         }
     }

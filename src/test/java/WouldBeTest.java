@@ -8,6 +8,7 @@ public final class WouldBeTest {
     public static void main(String[] args) {
         minutesUntilAsleep();
         minutesUntilAsleepOfOneFarBehind();
+        whatWouldBeIsLongerByNoise();
         asleepIn();
         bestToDeclare();
         bestToDeclareToATiredGuard();
@@ -60,6 +61,22 @@ public final class WouldBeTest {
         due.is("minutesUntilAsleep(19), a lullaby's minute too late", -1, x.minutesUntilAsleep(19));
     }
 
+    private static void whatWouldBeIsLongerByNoise() {
+        SleepBorder x = withGuards(1);
+        x.arrive(0, 0, 9, 60);
+        x.arrive(0, 0, 0, 60);
+        // The second search begins in the fourth minute, with noise 9, and takes 4 minutes.
+        due.is("minutesUntilAsleep(1)", 13, x.minutesUntilAsleep(1));
+        due.is("asleepIn(12)", 1, x.asleepIn(12));
+        due.is("asleepIn(13)", 2, x.asleepIn(13));
+        x.arrive(0, 0, 0, 8);
+        due.is("guardsWanted()", 1, x.guardsWanted());
+        x.sing(2, 10);
+        due.is("guardsWanted() with a longer lullaby", 0, x.guardsWanted());
+        x.pass(3);
+        due.is("minutesUntilAsleep(1), with noise already", 10, x.minutesUntilAsleep(1));
+    }
+
     private static void asleepIn() {
         SleepBorder x = withGuards(1);
         x.arrive(0, 0, 0, 60);
@@ -94,6 +111,9 @@ public final class WouldBeTest {
         x.arrive(9, 0, 0, 60);
         // The fifth search ends with an alertness of 5: 4 hidden dreams are not found.
         due.is("bestToDeclare(4)", 5, x.bestToDeclare(4));
+        x.declare(3, 9);
+        due.is("bestToDeclare(3), with no dreams and 9 declared", 0, x.bestToDeclare(3));
+        x.declare(3, 0);
         x.declare(4, 5);
         due.is("minutesUntilAsleep(4)", 25, x.minutesUntilAsleep(4));
         x.declare(4, 4);
