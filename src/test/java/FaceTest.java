@@ -8,12 +8,12 @@ import java.util.TreeSet;
 /** The public face: what the class shows, and that it shows nothing else. */
 public final class FaceTest {
     private static final String[] FACE = {
-        "int addGuard() IllegalStateException",
-        "int arrive(int,int,int,int) IllegalArgumentException IllegalStateException",
-        "int declare(int,int) IndexOutOfBoundsException IllegalArgumentException IllegalStateException",
-        "int sing(int,int) IndexOutOfBoundsException IllegalArgumentException IllegalStateException",
-        "int wake(int) IndexOutOfBoundsException",
-        "int pass(int) IllegalArgumentException",
+        "int addGuard()",
+        "int arrive(int,int,int,int)",
+        "int declare(int,int)",
+        "int sing(int,int)",
+        "int wake(int)",
+        "int pass(int)",
         "int minute()",
         "int travellers()",
         "int waiting()",
@@ -23,62 +23,77 @@ public final class FaceTest {
         "int paid()",
         "int noise()",
         "int nextInLine()",
-        "int stateOf(int) IndexOutOfBoundsException",
-        "int hiddenOf(int) IndexOutOfBoundsException",
-        "int lullabyOf(int) IndexOutOfBoundsException",
-        "int placeInLine(int) IndexOutOfBoundsException",
-        "int searchTime(int) IndexOutOfBoundsException",
+        "int stateOf(int)",
+        "int hiddenOf(int)",
+        "int lullabyOf(int)",
+        "int placeInLine(int)",
+        "int searchTime(int)",
         "int guards()",
-        "int alertnessOf(int) IndexOutOfBoundsException",
-        "int searches(int) IndexOutOfBoundsException",
-        "int minutesToGo(int) IndexOutOfBoundsException",
-        "boolean wouldFind(int,int) IndexOutOfBoundsException",
+        "int alertnessOf(int)",
+        "int searches(int)",
+        "int minutesToGo(int)",
+        "boolean wouldFind(int,int)",
         "int mostAlert()",
-        "int minutesUntilAsleep(int) IndexOutOfBoundsException",
-        "int asleepIn(int) IllegalArgumentException",
-        "int bestToDeclare(int) IndexOutOfBoundsException",
+        "int minutesUntilAsleep(int)",
+        "int asleepIn(int)",
+        "int bestToDeclare(int)",
         "int guardsWanted()",
         "double meanAlertness()",
         "long digest()",
     };
 
+    private static final Due due = new Due();
+
     public static void main(String[] args) {
-        Due due = new Due();
-        Class<?> type = SleepBorder.class;
-        due.is("modifiers", Modifier.PUBLIC | Modifier.FINAL, type.getModifiers());
-        due.is("methods", new TreeSet<>(Arrays.asList(FACE)), shownMethods(type));
-        due.is("constructors", 1, type.getDeclaredConstructors().length);
-        for (Constructor<?> made : type.getDeclaredConstructors()) {
-            due.is("constructor", "public SleepBorder()", made.toString());
-        }
-        for (Field field : type.getDeclaredFields()) {
-            due.is(field + " is private and final", true,
-                Modifier.isPrivate(field.getModifiers()) && Modifier.isFinal(field.getModifiers()));
-        }
+        due.sentence("public final class SleepBorder", FaceTest::theClassIsPublicAndFinal);
+        due.sentence("public SleepBorder()", FaceTest::oneConstructorIsShown);
+        due.sentence("The public face: its methods", FaceTest::theMethodsOfTheFaceAreShown);
+        due.sentence("The public face: no fields", FaceTest::noFieldIsShown);
         due.end("FaceTest");
     }
 
-    private static TreeSet<String> shownMethods(Class<?> type) {
+    private static void theClassIsPublicAndFinal() {
+        due.is("modifiers", Modifier.PUBLIC | Modifier.FINAL, SleepBorder.class.getModifiers());
+        due.is("superclass", Object.class, SleepBorder.class.getSuperclass());
+        due.is("interfaces", 0, SleepBorder.class.getInterfaces().length);
+    }
+
+    private static void oneConstructorIsShown() {
+        int shown = 0;
+        for (Constructor<?> made : SleepBorder.class.getDeclaredConstructors()) {
+            if (!Modifier.isPrivate(made.getModifiers())) {
+                shown++;
+                due.is("constructor", "public SleepBorder()", made.toString());
+            }
+        }
+        due.is("constructors", 1, shown);
+    }
+
+    private static void theMethodsOfTheFaceAreShown() {
         TreeSet<String> shown = new TreeSet<>();
-        for (Method method : type.getDeclaredMethods()) {
-            if (!Modifier.isPrivate(method.getModifiers())) {
+        for (Method method : SleepBorder.class.getDeclaredMethods()) {
+            if (!Modifier.isPrivate(method.getModifiers()) && !method.isSynthetic()) {
                 shown.add(written(method));
             }
         }
-        return shown;
+        due.is("methods", new TreeSet<>(Arrays.asList(FACE)), shown);
+    }
+
+    private static void noFieldIsShown() {
+        for (Field field : SleepBorder.class.getDeclaredFields()) {
+            due.is(field + " is private", true, Modifier.isPrivate(field.getModifiers()) || field.isSynthetic());
+        }
     }
 
     private static String written(Method method) {
         StringBuilder text = new StringBuilder();
-        text.append(Modifier.isStatic(method.getModifiers()) ? "static " : "");
+        if (!Modifier.isPublic(method.getModifiers()) || Modifier.isStatic(method.getModifiers())) {
+            text.append(Modifier.toString(method.getModifiers())).append(' ');
+        }
         text.append(method.getReturnType().getSimpleName()).append(' ').append(method.getName()).append('(');
         for (int i = 0; i < method.getParameterCount(); i++) {
             text.append(i == 0 ? "" : ",").append(method.getParameterTypes()[i].getSimpleName());
         }
-        text.append(')');
-        for (Class<?> thrown : method.getExceptionTypes()) {
-            text.append(' ').append(thrown.getSimpleName());
-        }
-        return text.toString();
+        return text.append(')').toString();
     }
 }

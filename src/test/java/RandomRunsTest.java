@@ -1,12 +1,14 @@
 import java.lang.reflect.InvocationTargetException;
 import java.lang.reflect.Method;
 import java.util.ArrayList;
+import java.util.Arrays;
 import java.util.List;
 
 /** Runs of calls, the same ones each time, on an object and on the model: both must answer alike. */
 public final class RandomRunsTest {
     private static final int RUNS = 300;
-    private static final int CALLS = 512;
+    /** With the digest at the end, as many as an object is used for. */
+    private static final int CALLS = 511;
     private static final int[] ODD = {-1, 10, 24, 61, 0, 60, 9, 4, Integer.MIN_VALUE, Integer.MAX_VALUE};
 
     private static final Due due = new Due();
@@ -35,7 +37,7 @@ public final class RandomRunsTest {
         for (int call = 0; call < CALLS; call++) {
             Method method = chosen(all);
             int[] numbers = numbers(method, longestPass);
-            due.is("run " + run + ", call " + call + ", " + method.getName() + java.util.Arrays.toString(numbers),
+            due.is("run " + run + ", call " + call + ", " + method.getName() + Arrays.toString(numbers),
                 model.call(method.getName(), numbers), answerOf(x, method, numbers));
         }
         due.is("run " + run + ", digest()", model.call("digest"), x.digest());
