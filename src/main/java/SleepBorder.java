@@ -530,7 +530,12 @@ public final class SleepBorder {
             advanceTransits();
             shortenLullabies();
             for (int guard = 0; guard < guardCount; guard++) {
-                work(guard);
+                int traveller = searched[guard];
+                if (isTraveller(traveller)) {
+                    searchOn(guard, traveller);
+                } else {
+                    beginSearchOrRest(guard);
+                }
             }
             clock++;
         }
@@ -559,24 +564,15 @@ public final class SleepBorder {
             }
         }
 
-        private void work(int guard) {
-            int traveller = searched[guard];
+        private void beginSearchOrRest(int guard) {
+            int traveller = firstWaiting();
             if (isTraveller(traveller)) {
-                searchOn(guard, traveller);
-                return;
-            }
-            int next = firstWaiting();
-            if (isTraveller(next)) {
-                beginSearch(guard, next);
+                searched[guard] = traveller;
+                searchLeft[guard] = searchMinutes(traveller);
+                state[traveller] = SEARCHED;
             } else {
                 alertness[guard] = Math.min(alertness[guard] + 1, FULLY_ALERT);
             }
-        }
-
-        private void beginSearch(int guard, int traveller) {
-            searched[guard] = traveller;
-            searchLeft[guard] = searchMinutes(traveller);
-            state[traveller] = SEARCHED;
         }
 
         private void searchOn(int guard, int traveller) {

@@ -79,7 +79,7 @@ final class Borders {
         x.addGuard();
         x.addGuard();
         for (int traveller = 8; traveller < 24; traveller++) {
-            x.arrive(traveller % 10, traveller * 3 % 10, traveller * 7 % 10, 20 + traveller);
+            x.arrive(5 + traveller % 5, traveller * 3 % 5, traveller * 7 % 10, 20 + traveller);
         }
         return x;
     }

@@ -1,3 +1,6 @@
+import java.util.function.Consumer;
+import java.util.function.Supplier;
+
 /** The terms of the document that hold for every promise, but for how a minute goes. */
 public final class TermsTest {
     private static final Due due = new Due();
@@ -316,52 +319,75 @@ public final class TermsTest {
     }
 
     private static void noiseThatFallsLaterIsHeard() {
-        SleepBorder x = Borders.withGuards(1);
-        x.arrive(0, 0, 8, 60);
-        x.arrive(0, 5, 0, 60);
+        SleepBorder x = Borders.withGuards(4);
+        for (int i = 0; i < 4; i++) {
+            x.arrive(0, 0, 9, 60);
+        }
+        x.arrive(0, 0, 0, 60);
         x.pass(3);
-        int[] noise = {8, 8, 8, 8, 0, 0, 0, 0, 0, 0};
+        int[] noise = {36, 36, 36, 36, 0, 0, 0, 0, 0, 0, 0, 0};
         for (int minute = 0; minute < noise.length; minute++) {
             x.pass(1);
             due.is("noise() behind " + (minute + 4), noise[minute], x.noise());
-            due.is("minutesToGo(0) behind " + (minute + 4), 9 - minute, x.minutesToGo(0));
+            due.is("minutesToGo(0) behind " + (minute + 4), 11 - minute, x.minutesToGo(0));
         }
-        due.is("stateOf(1)", 2, x.stateOf(1));
+        due.is("stateOf(4)", 2, x.stateOf(4));
     }
 
-    /** What is seen of the border must be the same behind these refused calls. */
-    private static void unchanged(SleepBorder x, Runnable refusedCalls) {
-        String before = Borders.seen(x);
-        refusedCalls.run();
-        due.is("all that is seen", before, Borders.seen(x));
+    /** A border behind refused calls must go on like one without them. */
+    private static void unchanged(Supplier<SleepBorder> made, Consumer<SleepBorder> refusedCalls) {
+        SleepBorder x = made.get();
+        SleepBorder without = made.get();
+        refusedCalls.accept(x);
+        due.is("all that is seen", Borders.seen(without), Borders.seen(x));
+        x.pass(10);
+        without.pass(10);
+        due.is("all that is seen later", Borders.seen(without), Borders.seen(x));
     }
 
     private static void addGuardRefusedChangesNothing() {
+        unchanged(Borders::full, x -> due.refuses("addGuard()", Borders.NOT_NOW, x::addGuard));
+        unchanged(TermsTest::fullLater, x -> due.refuses("addGuard()", Borders.NOT_NOW, x::addGuard));
+    }
+
+    private static SleepBorder fullLater() {
         SleepBorder x = Borders.full();
-        x.pass(3);
-        unchanged(x, () -> due.refuses("addGuard()", Borders.NOT_NOW, x::addGuard));
+        x.pass(2);
+        return x;
     }
 
     private static void arriveRefusedChangesNothing() {
-        SleepBorder full = Borders.full();
-        unchanged(full, () -> {
-            due.refuses("arrive(9, 1, 1, 1)", Borders.NOT_NOW, () -> full.arrive(9, 1, 1, 1));
-            due.refuses("arrive(10, 1, 1, 1)", Borders.BAD, () -> full.arrive(10, 1, 1, 1));
+        unchanged(Borders::full, x -> {
+            due.refuses("arrive(9, 1, 1, 1)", Borders.NOT_NOW, () -> x.arrive(9, 1, 1, 1));
+            due.refuses("arrive(0, 9, 9, 60)", Borders.NOT_NOW, () -> x.arrive(0, 9, 9, 60));
+            due.refuses("arrive(10, 1, 1, 1)", Borders.BAD, () -> x.arrive(10, 1, 1, 1));
         });
-        SleepBorder x = Borders.busy();
-        unchanged(x, () -> {
+        unchanged(TermsTest::fullWithOneToBeHeard, x ->
+            due.refuses("arrive(0, 9, 9, 60)", Borders.NOT_NOW, () -> x.arrive(0, 9, 9, 60)));
+        unchanged(Borders::busy, x -> {
             due.refuses("arrive(10, 1, 1, 1)", Borders.BAD, () -> x.arrive(10, 1, 1, 1));
             due.refuses("arrive(1, -1, 1, 1)", Borders.BAD, () -> x.arrive(1, -1, 1, 1));
             due.refuses("arrive(1, 1, 10, 1)", Borders.BAD, () -> x.arrive(1, 1, 10, 1));
             due.refuses("arrive(1, 1, 1, 0)", Borders.BAD, () -> x.arrive(1, 1, 1, 0));
             due.refuses("arrive(1, 1, 1, 61)", Borders.BAD, () -> x.arrive(1, 1, 1, 61));
         });
-        due.is("the next arrive", 8, x.arrive(1, 1, 1, 1));
+        SleepBorder x = new SleepBorder();
+        due.refuses("arrive(10, 1, 1, 1)", Borders.BAD, () -> x.arrive(10, 1, 1, 1));
+        due.is("the first arrive behind a refused one", 0, x.arrive(1, 1, 1, 1));
+    }
+
+    /** The last of 24 is in transit ten minutes later, and the others are sent back by then. */
+    private static SleepBorder fullWithOneToBeHeard() {
+        SleepBorder x = Borders.withGuards(1);
+        for (int i = 0; i < 23; i++) {
+            x.arrive(0, 0, 0, 1);
+        }
+        x.arrive(2, 3, 4, 50);
+        return x;
     }
 
     private static void declareRefusedChangesNothing() {
-        SleepBorder x = Borders.busy();
-        unchanged(x, () -> {
+        unchanged(Borders::busy, x -> {
             for (int traveller = 0; traveller < 6; traveller++) {
                 int one = traveller;
                 due.refuses("declare(" + one + ", 6)", Borders.NOT_NOW, () -> x.declare(one, 6));
@@ -373,13 +399,10 @@ public final class TermsTest {
             due.refuses("declare(8, 6)", Borders.NO_SUCH, () -> x.declare(8, 6));
             due.refuses("declare(-1, 6)", Borders.NO_SUCH, () -> x.declare(-1, 6));
         });
-        due.is("declare(6, 3)", 2, x.declare(6, 3));
-        due.is("declare(7, 3)", 0, x.declare(7, 3));
     }
 
     private static void singRefusedChangesNothing() {
-        SleepBorder x = Borders.busy();
-        unchanged(x, () -> {
+        unchanged(Borders::busy, x -> {
             for (int traveller = 0; traveller < 6; traveller++) {
                 int one = traveller;
                 due.refuses("sing(" + one + ", 33)", Borders.NOT_NOW, () -> x.sing(one, 33));
@@ -394,8 +417,7 @@ public final class TermsTest {
     }
 
     private static void wakeRefusedChangesNothing() {
-        SleepBorder x = Borders.busy();
-        unchanged(x, () -> {
+        unchanged(Borders::busy, x -> {
             for (int guard : Borders.notOf(2)) {
                 due.refuses("wake(" + guard + ")", Borders.NO_SUCH, () -> x.wake(guard));
             }
@@ -403,8 +425,7 @@ public final class TermsTest {
     }
 
     private static void passRefusedChangesNothing() {
-        SleepBorder x = Borders.busy();
-        unchanged(x, () -> {
+        unchanged(Borders::busy, x -> {
             for (int minutes : Borders.notMinutes()) {
                 due.refuses("pass(" + minutes + ")", Borders.BAD, () -> x.pass(minutes));
             }
@@ -412,8 +433,7 @@ public final class TermsTest {
     }
 
     private static void questionsRefusedChangeNothing() {
-        SleepBorder x = Borders.busy();
-        unchanged(x, () -> {
+        unchanged(Borders::busy, x -> {
             for (int traveller : new int[] {-1, 8}) {
                 due.refuses("stateOf", Borders.NO_SUCH, () -> x.stateOf(traveller));
                 due.refuses("hiddenOf", Borders.NO_SUCH, () -> x.hiddenOf(traveller));

@@ -156,15 +156,19 @@ public final class WouldBeTest {
         due.is("minutesUntilAsleep(0) expired", -1, Borders.firstIn(Borders.EXPIRED).minutesUntilAsleep(0));
     }
 
-    /** What is seen of a busy border and of a full one must be the same behind the question. */
+    /** A border behind the question, busy or full, must go on like one that was not asked. */
     private static void unchanged(Consumer<SleepBorder> question) {
-        SleepBorder[] both = {Borders.busy(), Borders.full()};
-        for (SleepBorder x : both) {
-            String before = Borders.seen(x);
-            question.accept(x);
-            due.is("all that is seen", before, Borders.seen(x));
-            due.is("minute()", 9, x.minute());
-        }
+        unchanged(Borders.busy(), Borders.busy(), question);
+        unchanged(Borders.full(), Borders.full(), question);
+    }
+
+    private static void unchanged(SleepBorder x, SleepBorder notAsked, Consumer<SleepBorder> question) {
+        question.accept(x);
+        due.is("minute()", 9, x.minute());
+        due.is("all that is seen", Borders.seen(notAsked), Borders.seen(x));
+        x.pass(10);
+        notAsked.pass(10);
+        due.is("all that is seen later", Borders.seen(notAsked), Borders.seen(x));
     }
 
     private static void minutesUntilAsleepChangesNothing() {
