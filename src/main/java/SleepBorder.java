@@ -155,7 +155,7 @@ public final class SleepBorder {
     public int placeInLine(int traveller) throws IndexOutOfBoundsException {
         requireTraveller(traveller);
         if (now.state[traveller] != Border.WAITING) {
-            return Border.NOBODY;
+            return -1;
         }
         return now.waitingAhead(traveller);
     }
@@ -498,7 +498,8 @@ public final class SleepBorder {
         }
 
         int hiddenDreams(int traveller) {
-            return Math.max(dreams[traveller] - declared[traveller], 0);
+            int hidden = dreams[traveller] - declared[traveller];
+            return hidden > 0 ? hidden : 0;
         }
 
         int searchMinutes(int traveller) {
